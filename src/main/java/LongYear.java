@@ -1096,7 +1096,7 @@ public final class LongYear {
         /** GRAIN at last by the PLAN, or NONE. */
         int bestPlan(Farm now, int m) {
             mostGrain = NONE;
-            tryYears(now, 0, m);
+            planFrom(now, 0, m);
             return mostGrain;
         }
 
@@ -1104,7 +1104,7 @@ public final class LongYear {
             return at(planned, i);
         }
 
-        private void tryYears(Farm here, int depth, int m) {
+        private void planFrom(Farm here, int depth, int m) {
             if (depth >= m) {
                 if (here.grain > mostGrain) {
                     mostGrain = here.grain;
@@ -1120,7 +1120,7 @@ public final class LongYear {
                 put(tried, depth, job);
                 next.setTo(here);
                 next.allDo(job);
-                if (next.goBy(false) == 0) tryYears(next, depth + 1, m);
+                if (next.goBy(false) == 0) planFrom(next, depth + 1, m);
             }
         }
 
