@@ -1082,7 +1082,7 @@ public final class LongYear {
 
     /** Farms and rows on which is tried what would be, the lump itself staying as it is. */
     private static final class Trials {
-        private final Farm[] farms = new Farm[MOST_NOONS + 1];
+        private final Farm[] farms = new Farm[MOST_NOONS];
         private final int[] tried = new int[MOST_PLAN], planned = new int[MOST_PLAN];
         private final int[] sums = new int[1 << MOST_FAMILIES], groups = new int[1 << MOST_FAMILIES];
         private final Farm one;

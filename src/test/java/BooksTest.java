@@ -192,6 +192,7 @@ public final class BooksTest {
         due.is("24: but not sure", x.liars(1), 0);
         x.report(6, 3, 31);
         due.is("24: alike there", x.liars(0), 8);
+        due.is("24: of one family none is sure", families(1).liars(1), 0);
         LongYear nobody = new LongYear();
         due.is("24: nobody", nobody.liars(0), 0);
         due.is("24: nobody", nobody.liars(1), 0);

@@ -68,6 +68,7 @@ public final class KeepTest {
         x.none(0);
         x.debt(2, 0, 3);
         x.none(1);
+        x.report(9, 0, 9);
         x.none(2);
         x.word(9, 9, 9, 9, 9, 9);
         due.is("35: from it", x.from(1), 1);

@@ -33,7 +33,7 @@ public final class LumpTest {
     }
 
     private static void year() {
-        LongYear x = Due.told("year 9; store 0 50; family 0 1 1; family 0 2 2; debt 0 1 5;");
+        LongYear x = Due.told("year 9;store 0 9;store 1 50;store 2 50;store 3 50;family 0 20 1;family 0 2 2;debt 0 1 5;");
         x.report(1, 1, 1);
         x.word(1, 2, 3, 4, 5, 6);
         x.rate(7);
@@ -45,6 +45,8 @@ public final class LumpTest {
         due.is("2: too many", x.year(71), BAD);
         due.is("2: far off", x.year(Integer.MIN_VALUE), BAD);
         due.is("2: nothing changed", x.count(1), 3);
+        due.holds("2: all stores have some", x.count(3) > 0 && x.count(4) > 0 && x.count(5) > 0);
+        due.holds("2: some wanted", x.count(10) > 0);
         due.is("2: the least", x.year(2), 9);
         for (int what = 1; what <= 12; what++) due.is("2: count " + what, x.count(what), 0);
         due.is("2: the text stays", x.count(13), bytes);
@@ -106,6 +108,8 @@ public final class LumpTest {
         due.is("5: at first", x.job(1, 4), 0);
         due.is("5: what it was", x.job(1, 3), 4);
         due.is("5: the other's own", x.about(0, 3), 0);
+        due.is("5: rest is a job", x.job(1, 0), 3);
+        due.is("5: what it was", x.job(1, 3), 0);
         due.is("5: not there", x.job(2, 0), BAD);
         due.is("5: not there", x.job(-1, 0), BAD);
         due.is("5: no such job", x.job(1, 5), BAD);
@@ -162,6 +166,10 @@ public final class LumpTest {
         due.is("8: two numbers grown together", Due.read(x, "year 5;store 01;"), -10 - 15);
         due.is("8: two words grown together", Due.read(x, "yearyear 5;"), -10);
         due.is("8: a word behind a number", Due.read(x, "year 5store"), -10 - 6);
+        due.is("8: long ahead", Due.read(x, "year 55;        store 0 1;"), 2);
+        due.is("8: nothing of a longer text", Due.read(x, "year 5"), -16);
+        due.is("8: nothing of a longer text", Due.read(x, "year 5;"), 1);
+        due.is("8: nothing of a longer text", Due.read(x, ""), -10);
     }
 
     private static void readFaults() {
@@ -196,6 +204,8 @@ public final class LumpTest {
         wellRead("year 2;");
         faultAt(year + "store 4 0;", 13);
         wellRead(year + "store 3 9999;");
+        faultAt(year + "store 3 -;", 15);
+        wellRead(two + "store 0 0;family 0 1 0;job 0 0;debt 0 1 1;");
         faultAt(year + "family 5 1 0;", 14);
         faultAt(year + "family 0 0 0;", 16);
         faultAt(year + "family 0 21 0;", 16);
@@ -238,10 +248,17 @@ public final class LumpTest {
         x.pass(1);
         x.clear();
         Due.type(x, "year 8;store 0 1;family 1 1 1;oops");
-        long before = x.digest();
+        long digest = x.digest();
         due.is("8: a fault", x.read(), -10 - 30);
-        due.is("8: all stays", x.digest(), before);
+        due.is("8: all stays", x.digest(), digest);
+        x.clear();
+        Due.type(x, "year 8;family 1 1 1;family 1 1 1;debt 0 1 9;oops");
+        digest = x.digest();
+        due.is("8: another", x.read(), -10 - 44);
+        due.is("8: all stays", x.digest(), digest);
         due.is("8: what may be undone, too", x.undo(), 1);
+        due.is("8: behind faults", Due.read(x, "year 8;"), 1);
+        due.is("8: nothing of them", x.count(7), 0);
     }
 
     private static void readTakesThePlace() {

@@ -132,6 +132,9 @@ public final class TrialsTest {
         due.is("15: the first of them", x.want(200), 2);
         x.pass(1);
         due.is("15: from now on", x.want(200), 1);
+        // a NOON of 4 FIELDS: 20 less 10, and 10 in the next DUSK; with half of them there were none
+        due.is("15: by whole harvests", Due.told("year 2;store 0 10;store 1 4;store 2 9;store 3 9;family 4 10 9;")
+            .want(3), NONE);
         due.is("15: by jobs as they are", wantsIn(DIG), 8);
         due.is("15: by jobs as they are", wantsIn(0), 24);
     }
@@ -171,7 +174,7 @@ public final class TrialsTest {
         heldAtMost();
     }
 
-    /** Eats 121 in each of 6 years: 999 is what must be held, or one more. */
+    /** Ever more till 999 is what must be held, and one more. */
     private static void heldAtMost() {
         int[] mouths = {20, 20, 20, 20, 20};
         LongYear x = new LongYear();
@@ -187,6 +190,9 @@ public final class TrialsTest {
         x.store(3, 9999);
         // 102; 113 and 102: 215; 238 and 102: 340; 377 and 102: 479; 532 and 102: 634; 704 and 102: 806; 895 and 102: 997
         due.is("16: 997", x.held(7), 997);
+        // mouths fewer year by year, as GAS is out
+        due.is("16: 999", Due.told("year 70;store 3 10;family 0 17 0;").held(24), 999);
+        due.is("16: 1000", Due.told("year 70;store 3 13;family 0 14 0;family 0 14 0;").held(25), NONE);
     }
 
     private static void chanceRefused() {
