@@ -113,7 +113,7 @@ public final class LongYear {
 
     public int eats(int family, int year) {
         if (!isFamily(family) || !within(year, 0, 9999)) return refuseBad(BAD);
-        return lump.farm.member(family).meal(lump.farm.isNoon(year));
+        return lump.farm.member(family).needs(lump.farm.isNoon(year));
     }
 
     public int fields() {
@@ -503,7 +503,7 @@ public final class LongYear {
             job = other.job;
         }
 
-        int meal(boolean noon) {
+        int needs(boolean noon) {
             return ways.meal(mouths, noon);
         }
     }
@@ -676,7 +676,7 @@ public final class LongYear {
 
         private int feed(boolean noon) {
             int eaten = 0;
-            for (int f = 0; f < size; f++) eaten += member(f).meal(noon);
+            for (int f = 0; f < size; f++) eaten += member(f).needs(noon);
             int lack = Math.max(0, eaten - grain);
             grain = stored(grain - eaten);
             return lack;
