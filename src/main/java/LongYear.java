@@ -124,10 +124,10 @@ public final class LongYear {
 
     public int plan(int m, int i) {
         if (!within(m, 0, MOST_PLAN) || i < NONE) return refuseBad(BAD_TRY);
-        if (i >= m) return NOT_SO_MANY;
         int grain = trials.bestPlan(lump.farm, m);
+        // only a PLAN that is there can have not so many JOBS
         if (grain == NONE || i == NONE) return grain;
-        return trials.plannedJob(i);
+        return i < m ? trials.plannedJob(i) : NOT_SO_MANY;
     }
 
     public int want(int n) {

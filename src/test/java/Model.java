@@ -304,7 +304,6 @@ final class Model {
 
     int plan(int m, int i) {
         if (m < 0 || m > 5 || i < -1) return bad(-10);
-        if (i >= m) return -5;
         int rows = 1, most = -1, row = 0;
         for (int y = 0; y < m; y++) rows *= 5;
         for (int r = 0; r < rows; r++) {
@@ -321,6 +320,7 @@ final class Model {
             }
         }
         if (most < 0 || i < 0) return most;
+        if (i >= m) return -5;
         for (int y = m - 1; y > i; y--) row /= 5;
         return row % 5;
     }

@@ -93,11 +93,17 @@ public final class TrialsTest {
         x.family(0, 10, 0);
         due.is("14: want at once", x.plan(1, NONE), NONE);
         due.is("14: no row", x.plan(1, 0), NONE);
+        due.is("14: no row, whatever the place", x.plan(1, 1), NONE);
+        due.is("14: no row, whatever the place", x.plan(1, Integer.MAX_VALUE), NONE);
+        due.is("14: a place that is none goes ahead", x.plan(1, -2), -10);
         due.is("14: no years, no want", x.plan(0, NONE), 9);
+        due.is("14: a row of no years", x.plan(0, 0), -5);
         x.store(0, 10);
         due.is("14: just enough", x.plan(1, NONE), 0);
+        due.is("14: a row of one", x.plan(1, 1), -5);
         due.is("14: and no more", x.plan(2, NONE), NONE);
-        due.is("14: none is no refusal", x.status(0), 0);
+        due.is("14: no row of two", x.plan(2, 2), NONE);
+        due.is("14: none is no refusal", x.status(0), 1);
     }
 
     private static void planOfNoJobsInNoon() {
