@@ -1,14 +1,16 @@
 /** Many runs of calls, drawn by numbers that are always the same, on the program and on the model of the document. */
 public final class ModelTest {
-    private static final int RUNS = 400, CALLS = 512, KINDS_OF_CALL = 37;
+    private static final int RUNS = 600, CALLS = 512, KINDS_OF_CALL = 37;
+    private static final int LONGEST = 300;
     private static final String[] ITEMS = {"store", "family", "job", "debt"};
 
     private static long drawn = 1;
     private static int wrong;
+    private static boolean atEdges;
 
     public static void main(String[] args) {
         for (int run = 0; run < RUNS && wrong == 0; run++) run(run);
-        System.out.println("ModelTest: " + RUNS + " runs of " + CALLS + " calls, " + wrong + " answers apart");
+        System.out.println("ModelTest: " + RUNS + " runs of up to " + CALLS + " calls, " + wrong + " answers apart");
         if (wrong != 0) System.exit(1);
     }
 
@@ -23,6 +25,7 @@ public final class ModelTest {
         if (die == 0) return least - 1;
         if (die == 1) return most + 1;
         if (die == 2) return below(2) == 0 ? Integer.MIN_VALUE + below(3) : Integer.MAX_VALUE - below(3);
+        if (atEdges && die < 40) return die % 2 == 0 ? least : most;
         return least + below(most - least + 1);
     }
 
@@ -38,19 +41,26 @@ public final class ModelTest {
         Model m = new Model();
         // some runs stand for long, others are told anew often
         int change = run % 4 == 0 ? 3 : 30;
+        // some look at all there is behind each call, which is a call, too
+        int looks = run % 5 == 0 ? 1 : 16;
+        int most = looks == 1 ? CALLS / 2 - 8 : CALLS - CALLS / 16 - 8;
         int calls = 0;
+        atEdges = run % 3 == 0;
         if (run % 2 == 0) calls = told(run, calls, x, m, text());
-        while (calls < CALLS) {
+        while (calls < most) {
             int which = below(KINDS_OF_CALL);
             if ((which == 0 || which == 6) && below(change) != 0) which = 8;
+            if (which == 6 && calls > most - LONGEST) which = 8;
             if (which == 13 && below(6) != 0) which = 12;
             if (which == 15 && below(4) != 0) which = 14;
             if (which == 6) calls = told(run, calls, x, m, text());
             else call(run, calls, x, m, which);
             calls++;
-            if (calls % 16 == 0) same(run, calls, "digest", x.digest(), m.digest());
+            if (calls % looks == 0) same(run, calls, "digest", x.digest(), m.digest());
             if (wrong != 0) return;
         }
+        for (int what = 0; what < 3; what++) same(run, calls, "status " + what, x.status(what), m.status(what));
+        for (int what = 0; what < 2; what++) same(run, calls, "part " + what, x.part(what), m.part(what));
     }
 
     private static void call(int run, int n, LongYear x, Model m, int which) {

@@ -24,7 +24,7 @@ public final class RoomTest {
 
     private static void neverThrows() {
         LongYear x = new LongYear();
-        for (int i = 0; i < 512; i++) any(x, (far() & 0x7fffffff) % 19 * 2 + (i & 1));
+        for (int i = 0; i < 511; i++) any(x, (far() & 0x7fffffff) % 19 * 2 + (i & 1));
         due.holds("it answers", x.count(0) >= 2);
     }
 
