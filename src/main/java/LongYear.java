@@ -1096,7 +1096,7 @@ public final class LongYear {
         /** GRAIN at last by the PLAN, or NONE. */
         int bestPlan(Farm now, int m) {
             mostGrain = NONE;
-            planFrom(now, 0, m);
+            planFrom(this, now, 0, m);
             return mostGrain;
         }
 
@@ -1104,24 +1104,28 @@ public final class LongYear {
             return at(planned, i);
         }
 
-        private void planFrom(Farm here, int depth, int m) {
+        private static void planFrom(Trials trials, Farm here, int depth, int m) {
             if (depth >= m) {
-                if (here.grain > mostGrain) {
-                    mostGrain = here.grain;
-                    copy(tried, planned);
-                }
+                trials.keepIfMost(here.grain);
                 return;
             }
-            Farm next = farmAt(farms, depth);
+            Farm next = farmAt(trials.farms, depth);
             if (next == null) return;
             // a NOON has no JOBS, and those of the last YEAR come too late to change GRAIN
             int jobs = here.isNoon(here.year) || depth == m - 1 ? 1 : JOBS;
             for (int job = 0; job < jobs; job++) {
-                put(tried, depth, job);
+                put(trials.tried, depth, job);
                 next.setTo(here);
                 next.allDo(job);
-                if (next.goBy(false) == 0) planFrom(next, depth + 1, m);
+                if (next.goBy(false) == 0) planFrom(trials, next, depth + 1, m);
             }
+        }
+
+        /** Of like rows the first stays, since rows are tried in their order. */
+        private void keepIfMost(int grain) {
+            if (grain <= mostGrain) return;
+            mostGrain = grain;
+            copy(tried, planned);
         }
 
         /** FIRST WANT, were there so much GRAIN now. */
@@ -1148,10 +1152,10 @@ public final class LongYear {
         /** Of 10 ways for each NOON within n YEARS, in how many rows of ways there is no WANT. */
         long calmWays(Farm now, int n, int p) {
             one.setTo(now);
-            return calmFrom(one, 0, n, p);
+            return calmFrom(farms, one, 0, n, p);
         }
 
-        private long calmFrom(Farm here, int depth, int years, int p) {
+        private static long calmFrom(Farm[] farms, Farm here, int depth, int years, int p) {
             int left = years;
             for (int i = 0; i < years && !here.isNoon(here.year); i++) {
                 if (here.goBy(false) > 0) return 0;
@@ -1162,9 +1166,9 @@ public final class LongYear {
             if (next == null) return 0;
             long ways = 0;
             next.setTo(here);
-            if (next.goBy(true) == 0) ways += p * calmFrom(next, depth + 1, left - 1, p);
+            if (next.goBy(true) == 0) ways += p * calmFrom(farms, next, depth + 1, left - 1, p);
             next.setTo(here);
-            if (next.goBy(false) == 0) ways += (10 - p) * calmFrom(next, depth + 1, left - 1, p);
+            if (next.goBy(false) == 0) ways += (10 - p) * calmFrom(farms, next, depth + 1, left - 1, p);
             return ways;
         }
 

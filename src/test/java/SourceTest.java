@@ -55,6 +55,14 @@ public final class SourceTest {
         while (m.find()) due.holds("a bound in: while (" + m.group(1), m.group(1).matches("\\w+ < \\w+ .*"));
     }
 
+    /** One that calls itself is private and static, and is given how deep it is. */
+    private static void selfCallsAreStatic(String head, String lines) {
+        Matcher name = Pattern.compile("(\\w+)\\(").matcher(head);
+        if (!name.find() || !Pattern.compile("(?<![.\\w])" + name.group(1) + "\\(").matcher(lines).find()) return;
+        due.holds(head + " calls itself: private and static", head.startsWith("private static "));
+        due.holds(head + " calls itself: it is given its depth", head.contains("int depth"));
+    }
+
     /** A method's lines stand between a head and a brace that are indented alike. */
     private static void shortMethods(String code) {
         Matcher m = Pattern.compile("(?m)^( {4}| {8})(?! )[^;={}]*\\([^;={}]*\\) \\{\n(.*?)^\\1\\}", Pattern.DOTALL)
@@ -63,6 +71,7 @@ public final class SourceTest {
         while (m.find()) {
             methods++;
             String head = m.group().substring(0, m.group().indexOf('\n')).trim();
+            selfCallsAreStatic(head, m.group(2));
             due.holds(head + " is at most sixty lines", m.group(2).split("\n").length <= 60);
             due.holds(head + " has at most seven parameters", head.chars().filter(c -> c == ',').count() < 7);
         }
